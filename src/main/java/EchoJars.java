@@ -1145,15 +1145,6 @@ public final class EchoJars {
             }
             return steps[end];
         }
-
-        boolean isAheadOf(Row other) {
-            for (int k = 0; k < size && k < other.size; k++) {
-                if (at(k) != other.at(k)) {
-                    return at(k) < other.at(k);
-                }
-            }
-            return size < other.size;
-        }
     }
 
     private static final class Jar {
@@ -1824,14 +1815,23 @@ public final class EchoJars {
         }
     }
 
-    /** Finds the shortest row by trying the orders; a row that stands in another one never matters. */
+    /**
+     * Finds the shortest row in which all parts stand; a part that stands in another one never matters. A state is
+     * the set of parts that are used and the last of them; the row is told letter by letter, with all states at once
+     * that the letters so far can have come to, so that no order is tried twice.
+     */
     private static final class Merger {
+        private static final int STATES = MERGED_JARS << MERGED_JARS;
+
         private final Row[] parts = new Row[MERGED_JARS];
         private final int[] overlaps = new int[MERGED_JARS * MERGED_JARS];
-        private final Row trial = new Row(new int[MERGED_JARS * JAR_ROOM]);
-        final Row best = new Row(new int[MERGED_JARS * JAR_ROOM]);
+        private final int[] rests = new int[STATES];
+        private final boolean[] isOpen = new boolean[STATES];
+        private int[] open = new int[STATES];
+        private int[] spare = new int[STATES];
+        private int openCount;
         private int count;
-        private boolean found;
+        final Row best = new Row(new int[MERGED_JARS * JAR_ROOM]);
 
         Merger() {
             for (int part = 0; part < MERGED_JARS; part++) {
@@ -1864,47 +1864,115 @@ public final class EchoJars {
         }
 
         void mergeAll() {
+            measureOverlaps();
+            measureRests();
+            int length = openFirsts();
+            best.clear();
+            for (int left = length; left > 0; left--) {
+                int letter = leastLetter(left);
+                best.add(letter);
+                follow(letter, left);
+            }
+        }
+
+        private void measureOverlaps() {
             for (int a = 0; a < count; a++) {
                 for (int b = 0; b < count; b++) {
-                    overlaps[a * MERGED_JARS + b] = parts[a].overlap(parts[b]);
+                    overlaps[a * MERGED_JARS + b] = a == b ? 0 : parts[a].overlap(parts[b]);
                 }
             }
-            found = false;
-            trial.clear();
-            extend(0, NONE, 0);
         }
 
-        private void extend(int used, int last, int depth) {
-            if (depth >= count) {
-                keepBetter();
-                return;
-            }
-            int size = trial.size;
-            for (int next = 0; next < count; next++) {
-                if (!isIn(used, next)) {
-                    append(next, last == NONE ? 0 : overlaps[last * MERGED_JARS + next]);
-                    if (!found || trial.size <= best.size) {
-                        extend(used | 1 << next, next, depth + 1);
+        /** How many letters at least must follow behind a state. */
+        private void measureRests() {
+            int all = (1 << count) - 1;
+            for (int used = all; used > 0; used--) {
+                for (int last = 0; last < count; last++) {
+                    int least = used == all ? 0 : FAR_AWAY;
+                    for (int next = 0; next < count; next++) {
+                        if (isIn(used, last) && !isIn(used, next)) {
+                            least = Math.min(least, restWith(used, last, next));
+                        }
                     }
-                    trial.size = size;
+                    rests[used * MERGED_JARS + last] = least;
                 }
             }
         }
 
-        private void append(int next, int overlap) {
-            for (int k = overlap; k < parts[next].size; k++) {
-                trial.add(parts[next].at(k));
+        private int restWith(int used, int last, int next) {
+            return parts[next].size - overlaps[last * MERGED_JARS + next] + rests[stateWith(used, next)];
+        }
+
+        private static int stateWith(int used, int next) {
+            return (used | 1 << next) * MERGED_JARS + next;
+        }
+
+        private int openFirsts() {
+            int least = count == 0 ? 0 : FAR_AWAY;
+            for (int first = 0; first < count; first++) {
+                least = Math.min(least, parts[first].size + rests[stateWith(0, first)]);
+            }
+            openCount = 0;
+            for (int first = 0; first < count; first++) {
+                if (parts[first].size + rests[stateWith(0, first)] == least) {
+                    addOpen(stateWith(0, first));
+                }
+            }
+            return least;
+        }
+
+        private void addOpen(int state) {
+            if (!isOpen[state] && openCount < STATES) {
+                isOpen[state] = true;
+                open[openCount] = state;
+                openCount++;
             }
         }
 
-        private void keepBetter() {
-            boolean shorter = !found || trial.size < best.size;
-            if (shorter || (trial.size == best.size && trial.isAheadOf(best))) {
-                best.clear();
-                for (int k = 0; k < trial.size; k++) {
-                    best.add(trial.at(k));
+        // all that is left but what must follow behind the last part is the end of that part
+        private int placeIn(int state, int left) {
+            return parts[state % MERGED_JARS].size + rests[state] - left;
+        }
+
+        private int letterOf(int state, int left) {
+            return parts[state % MERGED_JARS].at(placeIn(state, left));
+        }
+
+        private int leastLetter(int left) {
+            int least = LETTERS;
+            for (int k = 0; k < openCount; k++) {
+                least = Math.min(least, letterOf(open[k], left));
+            }
+            return least;
+        }
+
+        private void follow(int letter, int left) {
+            int[] before = open;
+            int beforeCount = openCount;
+            open = spare;
+            spare = before;
+            openCount = 0;
+            for (int k = 0; k < beforeCount; k++) {
+                isOpen[before[k]] = false;
+            }
+            for (int k = 0; k < beforeCount; k++) {
+                int state = before[k];
+                if (letterOf(state, left) == letter) {
+                    if (placeIn(state, left) + 1 < parts[state % MERGED_JARS].size) {
+                        addOpen(state);
+                    } else {
+                        addNexts(state);
+                    }
                 }
-                found = true;
+            }
+        }
+
+        private void addNexts(int state) {
+            int used = state / MERGED_JARS;
+            for (int next = 0; next < count; next++) {
+                if (!isIn(used, next) && restWith(used, state % MERGED_JARS, next) == rests[state]) {
+                    addOpen(stateWith(used, next));
+                }
             }
         }
     }

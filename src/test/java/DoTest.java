@@ -46,6 +46,11 @@ public final class DoTest {
         Check.refused("-1", x, x.fewest(0, -1), 5);
         Check.refused("sound 3", x, x.fewest(3, -1), 2);
         Check.refused("sound -1", x, x.fewest(-1, 0), 2);
+        x = Texts.opened("sound s abcdef;jar a size 2 leaks 1;jar b size 2 leaks 0;jar c size 2 leaks 0 costs 1;");
+        Check.fine("all jars", x, x.fewest(0, 0), 3);
+        Check.fine("all jars cost", x, x.cheapest(0, 0, 0), 1);
+        Check.fine("the set of all", x, x.cheapest(0, 0, 1), 7);
+        Check.refused("one letter less", x, x.fewest(0, 1), 9);
         x = Texts.opened("sound s a;");
         Check.refused("no jars", x, x.fewest(0, 0), 9);
     }
@@ -124,6 +129,13 @@ public final class DoTest {
                 + "fill a of s from 0 on 0;fill b of s from 1 on 0;fill e of s from 2 on 0;");
         Check.fine("letter by letter", x, x.pieced(0, 0), 4);
         Check.fine("two vowels are heard", x, x.pieced(0, 1), 1);
+        for (char c = 'a'; c <= 'z'; c++) {
+            x = Texts.opened("sound s " + c + "b;sound t e" + c + ";jar j size 1 leaks 0;jar k size 1 leaks 0;"
+                    + "jar e size 1 leaks 0;fill j of s from 0 on 0;fill k of s from 1 on 0;fill e of t from 0 on 0;");
+            boolean isVowel = "aeiou".indexOf(c) >= 0;
+            Check.fine(c + " by b", x, x.pieced(0, 1), isVowel ? 0 : 1);
+            Check.fine("e by " + c, x, x.pieced(1, 1), isVowel ? 1 : 0);
+        }
         x = Texts.opened("sound s abcd;sound t abc;sound v cd;jar a size 2 leaks 0;jar b size 3 leaks 0;"
                 + "jar c size 1 leaks 0;fill a of t from 0 on 0;fill b of v from 0 on 0;fill c of t from 0 on 0;");
         Check.fine("ab cd", x, x.pieced(0, 0), 2);

@@ -60,6 +60,11 @@ public final class RoadTest {
         Check.refused("jar -1", x, x.brokeOn(-1), 2);
         x = Texts.opened(ROAD);
         Check.refused("there was none", x, x.brokeOn(2), 8);
+        x = Texts.opened("jar a size 1 leaks 0 breaks 9;");
+        x.road(1, 1);
+        Check.fine("jar 0 broke", x, x.brokeOn(0), 1);
+        Texts.shop(x, "jar a size 1 leaks 0 breaks 9;");
+        Check.refused("nobody was on the road", x, x.brokeOn(0), 8);
         x = new EchoJars();
         Check.fine("no jars", x, x.road(9999, 30), 0);
     }
@@ -91,6 +96,13 @@ public final class RoadTest {
             Check.same("as many " + sound, x.top() * (20 / x.bottom()), good);
         }
         Check.fraction("no JAR with LETTERS", x, 0, 1);
+        int good = 0;
+        for (int many = 1; many <= 20; many++) {
+            good += (x.road(699 + many, 2) & 9) != 0 ? 1 : 0;
+            Check.done("odds of " + many, x, x.odds(0, 2, 700, many));
+            Check.same("of " + many, x.top() * many, x.bottom() * good);
+        }
+        Check.is("some and not all", good > 0 && good < 20);
         x.day(9);
         Check.done("by those that are HEARD", x, x.odds(2, 1, 0, 1));
         Check.fraction("c broke or not", x, (x.road(0, 1) & 4) / 4, 1);

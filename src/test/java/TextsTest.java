@@ -90,6 +90,7 @@ public final class TextsTest {
         shopTaken("sound s abcdefghijklmnop;", 0);
         shopTaken("sound abcdefgh jar;", 0);
         shopTaken("jar a size 12 leaks 99 costs 99 worth 99 breaks 15;", 1);
+        shopTaken("jar a size 1 leaks 0 costs 0 worth 0 breaks 0;", 1);
         shopFault("jar a size 0 leaks 1;", 4, 11);
         shopFault("jar a size 13 leaks 1;", 4, 11);
         shopFault("jar a size 1 leaks 100;", 4, 19);

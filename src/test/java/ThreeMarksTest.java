@@ -22,7 +22,8 @@ public final class ThreeMarksTest {
         Check.done("third", x, x.third(0, 1, 2, 5));
         Texts.row("third", Texts.told(x, 2, 5), "acavz");
         Check.fine("behind it", x, x.read(2, 5), 99);
-        Check.done("second", x, x.second(0, 2, 3 - 1, 5));
+        Check.done("second", x, x.second(0, 2, 2, 5));
+        Check.fine("behind it", x, x.read(2, 5), 99);
         Texts.row("second in place of the third", Texts.told(x, 2, 5), "abbxn");
         Check.done("in place of the first", x, x.third(0, 1, 0, 6));
         Texts.row("in place of the first", Texts.told(x, 0, 6), "acavzy");
@@ -75,7 +76,7 @@ public final class ThreeMarksTest {
 
     private static void anyTwo() {
         EchoJars x = Texts.opened("sound s abz;sound t bbb;sound u bca;jar a size 3 leaks 0;jar b size 3 leaks 5;"
-                + "jar c size 3 leaks 5;jar d size 2 leaks 0;jar e size 2 leaks 0;fill a of s from 0 on 0;"
+                + "jar c size 3 leaks 5 head;jar d size 2 leaks 0;jar e size 2 leaks 0;fill a of s from 0 on 0;"
                 + "fill b of t from 0 on 0;fill c of u from 0 on 0;fill d of s from 0 on 0;");
         Check.fine("the third", x, x.anyTwo(0, 1, 2), 1);
         Check.fine("either first", x, x.anyTwo(1, 0, 2), 1);
@@ -86,6 +87,9 @@ public final class ThreeMarksTest {
         // bb and ca: abz is too long, but ab and bb give bc, not ca
         Check.fine("by the DAY", x, x.anyTwo(0, 1, 2), 0);
         Check.fine("by the DAY", x, x.anyTwo(3, 1, 2), 0);
+        x.day(10);
+        Check.fine("b and a", x, x.anyTwo(1, 2, 1), 1);
+        Check.fine("a first letter that is not", x, x.anyTwo(1, 1, 2), 0);
         Check.refused("jar 5", x, x.anyTwo(0, 1, 5), 2);
         Check.refused("jar -1", x, x.anyTwo(0, -1, 2), 2);
         Check.refused("first jar 5", x, x.anyTwo(5, 1, 2), 2);

@@ -228,6 +228,8 @@ public final class WasTest {
         x = holding("aaa", "aaa", "aaa", "aaa", "aaa", "aaa", "aaa", "aaa");
         order(x, 2, 0, 1, 2, 3, 4, 5, 6, 7);
         order(x, 3, 0);
+        Texts.shop(x, "jar a size 1 leaks 0;");
+        order(x, 2, 0);
         x = new EchoJars();
         Check.refused("no jars", x, x.chain(1), 8);
         Check.refused("5 ahead of 8", x, x.chain(0), 5);
@@ -252,6 +254,12 @@ public final class WasTest {
         x = Texts.opened("sound s abc;sound t xyz;jar a size 1 leaks 0;jar b size 1 leaks 0;"
                 + "fill a of s from 0 on 0;fill b of s from 1 on 0;");
         Check.fine("the least as a number", x, x.witness(0), 1);
+        x = Texts.opened("sound s abc;sound t abd;sound u ebc;jar a size 2 leaks 0;jar b size 2 leaks 0;"
+                + "fill a of s from 0 on 0;fill b of s from 1 on 0;");
+        Check.fine("all jars", x, x.witness(0), 3);
+        x = Texts.opened("sound s abc;sound t abd;sound u ebc;jar a size 2 leaks 0;jar b size 2 leaks 0;"
+                + "jar c size 3 leaks 0;fill a of s from 0 on 0;fill b of s from 1 on 0;fill c of s from 0 on 0;");
+        Check.fine("one that is told later", x, x.witness(0), 4);
         x = Texts.opened("sound s abc;jar a size 1 leaks 0;");
         Check.fine("one sound needs no jars", x, x.witness(0), 0);
     }
