@@ -36,7 +36,7 @@ public final class ExtremesTest {
         }
         calls.sort(Comparator.comparing(Method::getName));
         Random random = new Random(5);
-        for (int run = 0; run < 400; run++) {
+        for (int run = 0; run < 1500; run++) {
             EchoJars x = new EchoJars();
             if (run % 4 != 0) {
                 Check.same("full", Texts.shop(x, FULL), 8);
@@ -44,7 +44,8 @@ public final class ExtremesTest {
                 x.tray(run % 3, run % 4, 60);
                 Texts.law(x, "mix any with any gives z;");
             }
-            for (int k = 0; k < 512; k++) {
+            // three calls each; the document promises nothing behind the 512th
+            for (int k = 0; k < 150; k++) {
                 tryOne(calls.get(random.nextInt(calls.size())), x, random);
             }
         }
@@ -69,7 +70,8 @@ public final class ExtremesTest {
             System.out.println(told + ": " + e.getCause());
         }
         Check.not(told.toString(), thrown);
-        Check.is("a STATUS", x.status() >= 0 && x.status() <= 11);
+        int status = x.status();
+        Check.is("a STATUS", status >= 0 && status <= 11);
         Check.is("a FRACTION", x.bottom() > 0);
     }
 
@@ -77,7 +79,7 @@ public final class ExtremesTest {
     private static void fullCalls() {
         EchoJars x = Texts.opened(FULL);
         x.day(1);
-        for (int k = 0; k < 100; k++) {
+        for (int k = 0; k < 80; k++) {
             Check.fine("chain", x, x.chain(1 + k % 11), x.chain(1 + k % 11));
             Check.is("merged", x.merged(63) >= 12);
             Check.is("shelf", x.shelf() > 0);

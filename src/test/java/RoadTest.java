@@ -31,9 +31,10 @@ public final class RoadTest {
     }
 
     private static void road() {
-        EchoJars x = Texts.opened(ROAD);
+        EchoJars x = null;
         int[] breaks = {8, 0, 15, 3};
         for (int seed = 0; seed < 10000; seed += 1111) {
+            x = Texts.opened(ROAD);
             int[] broke = new int[4];
             int s = seed;
             for (int day = 1; day <= 30; day++) {
