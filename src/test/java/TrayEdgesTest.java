@@ -27,6 +27,7 @@ public final class TrayEdgesTest {
         someCallsHaveNoStatus();
         fractionStays();
         fractionsHaveNoCommonDivisor();
+        askingChangesNothing();
         Check.finish();
     }
 
@@ -321,6 +322,21 @@ public final class TrayEdgesTest {
         Texts.shop(x, "");
         x.back();
         Check.fraction("also by another SHOP and back", x, 7, 16);
+    }
+
+    // Not promised: "Nothing is promised beyond the answers and state changes described above"
+    private static void askingChangesNothing() {
+        Edge.Asks[] calls = {x -> x.read(0, 0), x -> x.many(0), x -> x.letter(0, 0), x -> x.jar(0, 0), x -> x.heard(0),
+            x -> x.heardAt(0, 0), x -> x.lost(0), x -> x.silent(0), x -> x.loudest(9, 0), x -> x.couples(0, 3),
+            x -> x.mixes(1, 2), x -> x.others(1, 2), x -> x.clearest(0, 1, 0), x -> x.beside(0, 3, 0, 0),
+            x -> x.fits(3), x -> x.places(0, 0), x -> x.speaks(0), x -> x.kinds(7), x -> x.laps(0, 1),
+            x -> x.since(0, 1, 0), x -> x.far(0, 0), x -> x.common(0, 1), x -> x.fillFrom(0, 0, 1),
+            x -> x.keeps(0, 1), x -> x.fewest(0, 0), x -> x.cheapest(0, 0, 1), x -> x.witness(0),
+            x -> x.brokeOn(2), x -> x.anyTwo(0, 1, 2), x -> x.mergedAt(0), x -> x.chainAt(0), x -> x.shelfAt(0)};
+        for (int k = 0; k < calls.length; k++) {
+            long due = calls[k].of(Edge.full());
+            Edge.asked("asking " + k, due, calls[k]);
+        }
     }
 
     // Section 4: "told without a common divisor, the bottom above 0; 0 is 0 by 1"
